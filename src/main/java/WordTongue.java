@@ -875,7 +875,7 @@ public final class WordTongue {
         private final Ints frames = new Ints(MANY);
         private final Ints params = new Ints(MANY);
         private int storeWords = FIRST_STORE;
-        private int main = -1;
+        private int starter = NONE;
         private int kind = 0;
         private int place = 0;
         private boolean ready = false;
@@ -892,7 +892,7 @@ public final class WordTongue {
             }
             emit(0, 0);
             storeWords = words;
-            main = -1;
+            starter = NONE;
             kind = 0;
             place = 0;
             ready = false;
@@ -913,7 +913,7 @@ public final class WordTongue {
             for (int i = 0; i < frames.size(); i++) {
                 large = large || frames.get(i) > FRAME_MOST;
             }
-            if (kind == 0 && (large || main < 0)) {
+            if (kind == 0 && (large || starter < 0)) {
                 blame(7, 0);
             }
             ready = kind == 0;
@@ -962,14 +962,14 @@ public final class WordTongue {
             return index;
         }
 
-        void setMain(int index) {
-            if (main < 0) {
-                main = index;
+        void setStarter(int index) {
+            if (starter < 0) {
+                starter = index;
             }
         }
 
-        int main() {
-            return main;
+        int starter() {
+            return starter;
         }
 
         int routines() {
@@ -1228,7 +1228,7 @@ public final class WordTongue {
             int index = program.addRoutine(!outermost || !isGlobal(tree.data(node)));
             tree.setExtra(node, index);
             if (outermost && tree.data(node) == START_ID) {
-                program.setMain(index);
+                program.setStarter(index);
             }
             due(LEFT);
             if (kind() != RIGHT) {
@@ -2897,7 +2897,7 @@ public final class WordTongue {
         int go(int fuel) {
             prepare();
             rest = fuel;
-            enter(program.main(), 0, program.words());
+            enter(program.starter(), 0, program.words());
             for (long i = 0; i < STEPS_MOST && !over; i++) {
                 int op = program.codeAt(at);
                 int operand = program.codeAt(at + 1);
