@@ -213,7 +213,9 @@ public final class WordTongue {
         program.clear(storeWords);
         scanner.scan();
         if (parser.reads()) {
-            coder.translate(parser.root());
+            coder.begin();
+            coder.section(parser.root());
+            coder.finish();
         }
         program.judge();
         tape.cut(0);
@@ -397,7 +399,7 @@ public final class WordTongue {
         }
 
         int pop() {
-            int value = top();
+            int value = get(size - 1);
             cut(size - 1);
             return value;
         }
@@ -485,20 +487,20 @@ public final class WordTongue {
             return true;
         }
 
-        int kind(int i) {
-            return kinds.get(i);
+        Ints kinds() {
+            return kinds;
         }
 
-        int info(int i) {
-            return infos.get(i);
+        Ints infos() {
+            return infos;
         }
 
-        int place(int i) {
-            return places.get(i);
+        Ints places() {
+            return places;
         }
 
-        int stringAt(int i) {
-            return strings.get(i);
+        Ints strings() {
+            return strings;
         }
 
         void scan() {
@@ -1045,7 +1047,10 @@ public final class WordTongue {
     private static final class Parser {
         private static final int SPREAD = 128;
 
-        private final Scanner scanner;
+        private final Ints kinds;
+        private final Ints infos;
+        private final Ints places;
+        private final Ints strings;
         private final Tree tree;
         private final Program program;
         private final Ints tags = new Ints(MANY);
@@ -1056,7 +1061,10 @@ public final class WordTongue {
         private int root = 0;
 
         Parser(Scanner scanner, Tree tree, Program program) {
-            this.scanner = scanner;
+            kinds = scanner.kinds();
+            infos = scanner.infos();
+            places = scanner.places();
+            strings = scanner.strings();
             this.tree = tree;
             this.program = program;
         }
@@ -1082,25 +1090,25 @@ public final class WordTongue {
         }
 
         private int kind() {
-            return scanner.kind(at);
+            return kinds.get(at);
         }
 
         private int place() {
-            return scanner.place(at);
+            return places.get(at);
         }
 
         private int info() {
-            return scanner.info(at);
+            return infos.get(at);
         }
 
         private void advance() {
-            if (kind() != END) {
+            if (kinds.get(at) != END) {
                 at++;
             }
         }
 
         private void refuse() {
-            program.blame(kind() == BAD ? 1 : 2, place());
+            program.blame(kinds.get(at) == BAD ? 1 : 2, places.get(at));
             throw new IllegalStateException("a token can't stand there");
         }
 
@@ -1152,7 +1160,7 @@ public final class WordTongue {
             }
             int node = tree.node(ROUTINES, place(), 0);
             due(LET);
-            if (!outermost && kind() == NAME && scanner.kind(at + 1) != LEFT) {
+            if (!outermost && kind() == NAME && kinds.get(at + 1) != LEFT) {
                 variables(node);
                 return node;
             }
@@ -1336,7 +1344,7 @@ public final class WordTongue {
         }
 
         private void labels(int node) {
-            for (int i = 0; i < MANY && kind() == NAME && scanner.kind(at + 1) == COLON; i++) {
+            for (int i = 0; i < MANY && kind() == NAME && kinds.get(at + 1) == COLON; i++) {
                 tree.hang(node, leaf(LABEL));
                 advance();
             }
@@ -1646,12 +1654,12 @@ public final class WordTongue {
 
         /** Gives a string its words: how many bytes, then they, four in a word. */
         private int pack(int head) {
-            int count = scanner.stringAt(head);
+            int count = strings.get(head);
             int address = program.words();
             for (int i = 0; i <= count; i += 4) {
                 int word = 0;
                 for (int j = 0; j < 4 && i + j <= count; j++) {
-                    word |= scanner.stringAt(head + i + j) << 8 * j;
+                    word |= strings.get(head + i + j) << 8 * j;
                 }
                 program.addWord(word);
             }
@@ -1736,14 +1744,16 @@ public final class WordTongue {
             floor = marks.pop();
         }
 
-        /** Declares a name in the innermost block; of two that are the same the one behind is told. */
+        /** Declares a name in the innermost block; of two that are the same the one behind is told, and means nothing. */
         int declare(int name, int kind, int data, int owner, int place) {
+            int meant = name;
             for (int i = floor; i < names.size(); i++) {
                 if (names.get(i) == name) {
                     program.blame(4, Math.max(place, places.get(i)));
+                    meant = place > places.get(i) ? NONE : meant;
                 }
             }
-            return put(name, kind, data, owner, place);
+            return put(meant, kind, data, owner, place);
         }
 
         /** Where the name's meaning lies: NONE when it has none. */
@@ -1799,17 +1809,12 @@ public final class WordTongue {
             return failed;
         }
 
-        int number(int whole) {
+        /** The K's number, which must not be outside 0 .. most; when that is NONE, any number will do. */
+        int number(int whole, int most) {
             failed = false;
             stack.cut(0);
             int number = reckon(whole, true);
-            return failed ? 0 : number;
-        }
-
-        /** The K's number, which must not be outside 0 .. most. */
-        int upTo(int whole, int most) {
-            int number = number(whole);
-            if (!failed && (number < 0 || number > most)) {
+            if (!failed && most != NONE && (number < 0 || number > most)) {
                 fail(6, tree.place(whole));
             }
             return failed ? 0 : number;
@@ -1840,6 +1845,9 @@ public final class WordTongue {
                     case SIGN:
                         linked = sign(item, live, linked);
                         live = asked && linked;
+                        break;
+                    case NAME:
+                        stack.add(name(item));
                         break;
                     default:
                         single(item);
@@ -1881,9 +1889,6 @@ public final class WordTongue {
             switch (tree.kind(item)) {
                 case NUMBER:
                     stack.add(tree.data(item));
-                    break;
-                case NAME:
-                    stack.add(name(item));
                     break;
                 case UNARY:
                     int sign = tree.data(item);
@@ -1950,7 +1955,7 @@ public final class WordTongue {
             constants = new Constants(tree, program, scope);
         }
 
-        void translate(int root) {
+        void begin() {
             scope.clear();
             labels.cut(0);
             gotos.cut(0);
@@ -1961,12 +1966,10 @@ public final class WordTongue {
             routine = NONE;
             area = 0;
             areas = 0;
-            scope.open();
-            int part = tree.first(root);
-            for (int i = 0; i < MANY && part != 0; i++) {
-                declaration(part);
-                part = tree.next(part);
-            }
+        }
+
+        /** Sends the GOTOs to their labels, which may have stood behind them. */
+        void finish() {
             for (int i = 0; i + 1 < gotos.size(); i += 2) {
                 program.setOperand(gotos.get(i), labels.get(gotos.get(i + 1)));
             }
@@ -1983,20 +1986,6 @@ public final class WordTongue {
             return program.emit(op, operand);
         }
 
-        private void declaration(int node) {
-            switch (tree.kind(node)) {
-                case ROUTINES:
-                    routines(node);
-                    break;
-                case VARIABLES:
-                    variables(node);
-                    break;
-                default:
-                    definitions(node);
-                    break;
-            }
-        }
-
         private void definitions(int node) {
             int kind = tree.kind(node);
             int part = tree.first(node);
@@ -2011,12 +2000,13 @@ public final class WordTongue {
             part = tree.first(node);
             for (int i = 0; i < MANY && part != 0; i++) {
                 int whole = tree.first(part);
-                if (kind == GLOBAL) {
-                    scope.setData(first + i, constants.upTo(whole, GLOBALS - 1));
-                } else if (kind == STATIC) {
-                    program.setWord(tree.extra(part), constants.number(whole));
+                int number = constants.number(whole, kind == GLOBAL ? GLOBALS - 1 : NONE);
+                if (kind == STATIC) {
+                    program.setWord(tree.extra(part), number);
                 } else {
-                    scope.setData(first + i, constants.number(whole));
+                    scope.setData(first + i, number);
+                }
+                if (kind == MANIFEST) {
                     scope.setOwner(first + i, 1);
                 }
                 part = tree.next(part);
@@ -2121,7 +2111,7 @@ public final class WordTongue {
             for (int i = 0; i < count; i++) {
                 if (tree.kind(part) == VEC) {
                     emit(OP_HERE, used + words);
-                    words += constants.upTo(tree.first(part), VEC_MOST) + 1;
+                    words += constants.number(tree.first(part), VEC_MOST) + 1;
                 } else {
                     expression(part, VALUE, 0);
                 }
@@ -2138,7 +2128,8 @@ public final class WordTongue {
             take(words);
         }
 
-        private void section(int node) {
+        /** A block, what a switch has, or the whole text. */
+        void section(int node) {
             int outerUsed = used;
             scope.open();
             int part = tree.first(node);
@@ -2164,10 +2155,12 @@ public final class WordTongue {
                         routines(part);
                         break;
                     case VARIABLES:
+                        variables(part);
+                        break;
                     case GLOBAL:
                     case MANIFEST:
                     case STATIC:
-                        declaration(part);
+                        definitions(part);
                         break;
                     default:
                         command(part);
@@ -2189,7 +2182,7 @@ public final class WordTongue {
                 return;
             }
             int whole = tree.first(node);
-            int number = constants.number(whole);
+            int number = constants.number(whole, NONE);
             if (constants.hasFailed()) {
                 return;
             }
@@ -2340,7 +2333,7 @@ public final class WordTongue {
             int outerUsed = used;
             int first = tree.first(node);
             int last = tree.next(first);
-            int step = tree.extra(node) == 0 ? 1 : constants.number(tree.extra(node));
+            int step = tree.extra(node) == 0 ? 1 : constants.number(tree.extra(node), NONE);
             expression(first, VALUE, 0);
             expression(last, VALUE, 0);
             emit(OP_SAVE, outerUsed + 1);
@@ -2465,6 +2458,10 @@ public final class WordTongue {
                         choice(item);
                         unfit(want, told);
                         break;
+                    case TABLE:
+                        table(item);
+                        unfit(want, told);
+                        break;
                     case SIGN:
                         chain = sign(item, chain);
                         unfit(want, told);
@@ -2573,9 +2570,6 @@ public final class WordTongue {
                 case STRING:
                     emit(OP_CONST, tree.data(node));
                     break;
-                case TABLE:
-                    table(node);
-                    break;
                 case BANG:
                     emit(isValue ? OP_INDEX : OP_SIGN + PLUS, 0);
                     fits = true;
@@ -2616,7 +2610,7 @@ public final class WordTongue {
             int address = tree.data(node);
             int part = tree.first(node);
             for (int i = 0; i < MANY && part != 0; i++) {
-                program.setWord(address + i, constants.number(part));
+                program.setWord(address + i, constants.number(part, NONE));
                 part = tree.next(part);
             }
             emit(OP_CONST, address);
@@ -2641,6 +2635,7 @@ public final class WordTongue {
                     break;
                 case A_LABEL:
                     program.blame(6, tree.place(node));
+                    unfit(want, told);
                     break;
                 default:
                     emit(OP_CONST, data);
@@ -2705,39 +2700,31 @@ public final class WordTongue {
             return isOutput(k);
         }
 
-        private int position() {
-            return isInput(inHand) ? positions[inHand] : 0;
-        }
-
-        private void move(int position) {
-            if (isInput(inHand)) {
-                positions[inHand] = position;
-            }
-        }
-
         void rewind() {
-            move(0);
+            if (isInput(inHand)) {
+                positions[inHand] = 0;
+            }
         }
 
         /** The byte that comes next, -1 at the end. */
         private int next() {
-            int at = position();
-            return isInput(inHand) && at < inputs[inHand].size() ? inputs[inHand].get(at) : -1;
+            boolean more = isInput(inHand) && positions[inHand] < inputs[inHand].size();
+            return more ? inputs[inHand].get(positions[inHand]) : -1;
         }
 
         int read() {
             int c = next();
-            if (c >= 0) {
-                move(position() + 1);
+            if (c >= 0 && isInput(inHand)) {
+                positions[inHand]++;
             }
             return c;
         }
 
         boolean unread() {
-            if (position() <= 0) {
+            if (!isInput(inHand) || positions[inHand] <= 0) {
                 return false;
             }
-            move(position() - 1);
+            positions[inHand]--;
             return true;
         }
 
@@ -2856,7 +2843,7 @@ public final class WordTongue {
 
     /** Runs the code that was compiled. */
     private static final class Machine {
-        private static final long STEPS_MOST = 1000000000000L;
+        private static final long STEPS_MOST = 100000000000L;
 
         private final Program program;
         private final Channels channels;
@@ -2872,6 +2859,9 @@ public final class WordTongue {
         private int answer = 0;
         private int error = 0;
         private boolean over = false;
+        // The library's routine that was called, with so many arguments on the stack; NONE when none waits.
+        private int service = NONE;
+        private int given = 0;
 
         Machine(Program program, Channels channels) {
             this.program = program;
@@ -2902,7 +2892,14 @@ public final class WordTongue {
                 int op = program.codeAt(at);
                 int operand = program.codeAt(at + 1);
                 at += 2;
-                step(op, operand);
+                if (op <= OP_POP) {
+                    step(op, operand);
+                } else {
+                    turn(op, operand);
+                }
+                if (service != NONE) {
+                    serve();
+                }
             }
             return error;
         }
@@ -2925,6 +2922,7 @@ public final class WordTongue {
             answer = 0;
             error = 0;
             over = false;
+            service = NONE;
         }
 
         private void fail(int kind) {
@@ -2965,6 +2963,7 @@ public final class WordTongue {
             return 0;
         }
 
+        /** What loads, stores and works on one word. */
         private void step(int op, int operand) {
             switch (op) {
                 case OP_CONST:
@@ -2985,6 +2984,9 @@ public final class WordTongue {
                 case OP_INDEX:
                     stack.add(look(stack.pop() + stack.pop()));
                     break;
+                case OP_BYTE:
+                    lookByte();
+                    break;
                 case OP_NEG:
                     stack.add(-stack.pop());
                     break;
@@ -2998,34 +3000,19 @@ public final class WordTongue {
                     int target = stack.pop();
                     put(target, stack.pop());
                     break;
-                case OP_BYTE:
-                    lookByte();
-                    break;
                 case OP_POKEBYTE:
                     putByte();
                     break;
                 case OP_POP:
                     stack.pop();
                     break;
-                case OP_BURN:
-                    burns();
-                    break;
-                case OP_CALL:
-                    call(stack.pop(), operand % 32, base + operand / 32);
-                    break;
-                case OP_BACK:
-                    back();
-                    break;
-                case OP_FINISH:
-                    finish(0, 0);
-                    break;
                 default:
-                    turn(op, operand);
+                    finish(0, 0);
                     break;
             }
         }
 
-        /** The jumps, and the signs between two. */
+        /** What goes elsewhere, or may end the run; and the signs between two. */
         private void turn(int op, int operand) {
             switch (op) {
                 case OP_JUMP:
@@ -3044,15 +3031,25 @@ public final class WordTongue {
                         at += 2;
                     }
                     break;
+                case OP_BURN:
+                    burns();
+                    break;
+                case OP_CALL:
+                    call(stack.pop(), operand % 32, base + operand / 32);
+                    break;
+                case OP_BACK:
+                    back();
+                    break;
+                case OP_FINISH:
+                    finish(0, 0);
+                    break;
                 default:
                     int right = stack.pop();
                     int left = stack.pop();
                     if (op > OP_LINK) {
                         link(op - OP_LINK, left, right, operand);
-                    } else if (op > OP_SIGN) {
-                        work(op - OP_SIGN, left, right);
                     } else {
-                        finish(0, 0);
+                        work(op - OP_SIGN, left, right);
                     }
                     break;
             }
@@ -3112,7 +3109,8 @@ public final class WordTongue {
             } else if (entry == LIBRARY_ENTRY + 13) {
                 apply(count, frame);
             } else if (isBetween(entry, LIBRARY_ENTRY, LIBRARY_COUNT)) {
-                serve(entry - LIBRARY_ENTRY, count);
+                service = entry - LIBRARY_ENTRY;
+                given = count;
             } else {
                 fail(4);
             }
@@ -3180,16 +3178,19 @@ public final class WordTongue {
                     // An address is no entry.
                     fail(4);
                 } else {
-                    serve(entry - LIBRARY_ENTRY, 2);
+                    service = entry - LIBRARY_ENTRY;
+                    given = 2;
                 }
             }
         }
 
-        private void serve(int index, int count) {
-            int first = argument(0, count);
-            int second = argument(1, count);
-            int third = argument(2, count);
-            stack.cut(stack.size() - count);
+        private void serve() {
+            int index = service;
+            int first = argument(0, given);
+            int second = argument(1, given);
+            int third = argument(2, given);
+            service = NONE;
+            stack.cut(stack.size() - given);
             stack.add(index < 11 ? exchange(index, first) : reckon(index, first, second, third));
         }
 
