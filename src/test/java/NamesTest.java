@@ -102,6 +102,9 @@ public final class NamesTest {
         Check.fault("GLOBAL $( F: 1 $); LET F() = 1; LET ^F() = 2" + GO, 4);
         Check.fault("GLOBAL $( F: 1 $); LET F() = 1 AND ^F() = 2" + GO, 4);
         Check.fault("LET START() BE $( GLOBAL $( F: 1 $); LET ^F() = 1; FINISH $)", 4);
+        // Of two the first one counts.
+        Check.fault("MANIFEST $( A = 1; B = A; ^A = 2 $)" + GO, 4);
+        no("LET x = 1; x := 2; ^x: FINISH", 4);
         // Blocks of their own.
         Check.good("LET F(a) BE $( LET a = 1; a := 2 $)" + GO);
         Check.good("LET F(F) BE $( LET START = 1; START := 2 $)" + GO);

@@ -32,6 +32,10 @@ public final class PlacesTest {
         Check.fault("LET F(a) = a; LET START() BE ^F(y) := 1", 6);
         Check.fault("LET START() BE ^(1 + y) := 1", 6);
         Check.fault("LET START() BE (^y) := 1", 3);
+        // A label is no place: the first token counts, and then its name in an E.
+        no("L: ^(L) := 1");
+        no("L: x := @^(L)");
+        no("L: x := 1 + (^L)");
     }
 
     private static void addresses() {
