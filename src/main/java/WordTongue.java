@@ -213,9 +213,7 @@ public final class WordTongue {
         program.clear(storeWords);
         scanner.scan();
         if (parser.reads()) {
-            coder.begin();
-            coder.section(parser.root());
-            coder.finish();
+            coder.translate(parser.root());
         }
         program.judge();
         tape.cut(0);
@@ -277,7 +275,7 @@ public final class WordTongue {
         return machine.fuelLeft();
     }
 
-    /** A sign between two words, worked; a division by 0 is 0 here, for the asker has looked before. */
+    /** A sign between two words that is no relation, worked; a division by 0 is 0 here, for the asker has looked before. */
     private static int worked(int sign, int a, int b) {
         switch (sign) {
             case PLUS:
@@ -300,10 +298,8 @@ public final class WordTongue {
                 return a | b;
             case EQV:
                 return ~(a ^ b);
-            case NEQV:
-                return a ^ b;
             default:
-                return holds(sign, a, b) ? -1 : 0;
+                return a ^ b;
         }
     }
 
@@ -399,9 +395,11 @@ public final class WordTongue {
         }
 
         int pop() {
-            int value = get(size - 1);
-            cut(size - 1);
-            return value;
+            if (size <= 0 || size > cells.length) {
+                return 0;
+            }
+            size--;
+            return cells[size];
         }
 
         /** Leaves the first ones alone. */
@@ -1798,6 +1796,8 @@ public final class WordTongue {
         private final Scope scope;
         private final Ints stack = new Ints(MANY);
         private boolean failed = false;
+        private int faultKind = 0;
+        private int faultPlace = 0;
 
         Constants(Tree tree, Program program, Scope scope) {
             this.tree = tree;
@@ -1817,12 +1817,19 @@ public final class WordTongue {
             if (!failed && most != NONE && (number < 0 || number > most)) {
                 fail(6, tree.place(whole));
             }
+            if (failed) {
+                program.blame(faultKind, faultPlace);
+            }
             return failed ? 0 : number;
         }
 
+        /** Keeps the K's fault at the least place, for what a sign asks comes behind what stands behind it. */
         private void fail(int kind, int place) {
-            failed = true;
-            program.blame(kind, place);
+            if (!failed || place < faultPlace) {
+                failed = true;
+                faultKind = kind;
+                faultPlace = place;
+            }
         }
 
         /** Works the parts of an E in order; what isn't worked by the rules is looked through for its names alone. */
@@ -1831,6 +1838,8 @@ public final class WordTongue {
             boolean linked = true;
             int item = tree.first(whole);
             for (int i = 0; i < MANY && item != 0; i++) {
+                int data = tree.data(item);
+                int place = tree.place(item);
                 switch (tree.kind(item)) {
                     case PAREN:
                         stack.add(reckon(tree.first(item), live));
@@ -1843,14 +1852,23 @@ public final class WordTongue {
                         fail(6, tree.place(tree.next(tree.first(item))));
                         break;
                     case SIGN:
-                        linked = sign(item, live, linked);
-                        live = asked && linked;
+                        if (isRelation(data)) {
+                            linked = relate(data, linked, tree.extra(item) != 0);
+                            live = asked && linked;
+                        } else {
+                            work(data, live, place);
+                        }
                         break;
                     case NAME:
-                        stack.add(name(item));
+                        int entry = scope.find(data);
+                        boolean isNumber = entry >= 0 && scope.kind(entry) == A_MANIFEST && scope.owner(entry) != 0;
+                        if (!isNumber) {
+                            fail(entry < 0 ? 3 : 6, place);
+                        }
+                        stack.add(isNumber ? scope.data(entry) : 0);
                         break;
                     default:
-                        single(item);
+                        single(tree.kind(item), data, place);
                         break;
                 }
                 item = tree.next(item);
@@ -1858,22 +1876,22 @@ public final class WordTongue {
             return stack.pop();
         }
 
-        /** Works one sign; tells whether the relations from the left hold so far. */
-        private boolean sign(int item, boolean live, boolean linked) {
-            int sign = tree.data(item);
+        /** Works one relation of a row; tells whether what stands behind it is worked. */
+        private boolean relate(int sign, boolean linked, boolean more) {
             int right = stack.pop();
             int left = stack.pop();
-            if (!isRelation(sign)) {
-                if (isDivision(sign) && right == 0 && live && !failed) {
-                    fail(6, tree.place(item));
-                }
-                stack.add(worked(sign, left, right));
-                return linked;
-            }
             boolean held = linked && holds(sign, left, right);
-            boolean more = tree.extra(item) != 0;
             stack.add(more ? right : held ? -1 : 0);
-            return more ? held : true;
+            return !more || held;
+        }
+
+        private void work(int sign, boolean live, int place) {
+            int right = stack.pop();
+            int left = stack.pop();
+            if (isDivision(sign) && right == 0 && live && !failed) {
+                fail(6, place);
+            }
+            stack.add(worked(sign, left, right));
         }
 
         private int choose(int item, boolean live) {
@@ -1885,43 +1903,29 @@ public final class WordTongue {
             return first ? one : other;
         }
 
-        private void single(int item) {
-            switch (tree.kind(item)) {
+        private void single(int kind, int data, int place) {
+            switch (kind) {
                 case NUMBER:
-                    stack.add(tree.data(item));
+                    stack.add(data);
                     break;
                 case UNARY:
-                    int sign = tree.data(item);
                     int number = stack.pop();
-                    stack.add(sign == MINUS ? -number : sign == TILDE ? ~number : number);
+                    stack.add(data == MINUS ? -number : data == TILDE ? ~number : number);
                     break;
                 case BANG:
                 case PERCENT:
                     stack.pop();
-                    fail(6, tree.place(item));
+                    fail(6, place);
                     break;
                 case INDIRECT:
                 case ADDRESS:
-                    fail(6, tree.place(item));
+                    fail(6, place);
                     break;
                 default:
-                    fail(6, tree.place(item));
+                    fail(6, place);
                     stack.add(0);
                     break;
             }
-        }
-
-        private int name(int item) {
-            int entry = scope.find(tree.data(item));
-            if (entry < 0) {
-                fail(3, tree.place(item));
-                return 0;
-            }
-            if (scope.kind(entry) != A_MANIFEST || scope.owner(entry) == 0) {
-                fail(6, tree.place(item));
-                return 0;
-            }
-            return scope.data(entry);
         }
     }
 
@@ -1955,7 +1959,7 @@ public final class WordTongue {
             constants = new Constants(tree, program, scope);
         }
 
-        void begin() {
+        void translate(int root) {
             scope.clear();
             labels.cut(0);
             gotos.cut(0);
@@ -1966,10 +1970,8 @@ public final class WordTongue {
             routine = NONE;
             area = 0;
             areas = 0;
-        }
-
-        /** Sends the GOTOs to their labels, which may have stood behind them. */
-        void finish() {
+            section(root);
+            // A GOTO may stand ahead of its label.
             for (int i = 0; i + 1 < gotos.size(); i += 2) {
                 program.setOperand(gotos.get(i), labels.get(gotos.get(i + 1)));
             }
@@ -2129,7 +2131,7 @@ public final class WordTongue {
         }
 
         /** A block, what a switch has, or the whole text. */
-        void section(int node) {
+        private void section(int node) {
             int outerUsed = used;
             scope.open();
             int part = tree.first(node);
@@ -3067,6 +3069,8 @@ public final class WordTongue {
         private void work(int sign, int left, int right) {
             if (isDivision(sign) && right == 0) {
                 fail(3);
+            } else if (isRelation(sign)) {
+                stack.add(holds(sign, left, right) ? -1 : 0);
             } else {
                 stack.add(worked(sign, left, right));
             }
