@@ -191,6 +191,14 @@ public final class FaceTest {
         Check.due("compiling leaves the store", x.word(99), 17);
         x.run(10);
         Check.due("a run begins with the store as at first", x.word(99), 0);
+        // Whatever the latest run was in when it ended.
+        Check.compile(x, "LET F(n) = n = 0 -> 1 / 0, F(n - 1) + 1; LET START() BE F(5)");
+        for (int i = 0; i < 3; i++) {
+            Check.due("run to error 3", x.run(50), 3);
+            Check.due("START's caller's B", x.word(102), 0);
+            Check.due("F's caller's B", x.word(104), 102);
+            Check.due("fuel", x.fuel(), 50 - 8);
+        }
     }
 
     private static void latestRunStays() {

@@ -32,6 +32,11 @@ public final class PlacesTest {
         Check.fault("LET F(a) = a; LET START() BE ^F(y) := 1", 6);
         Check.fault("LET START() BE ^(1 + y) := 1", 6);
         Check.fault("LET START() BE (^y) := 1", 3);
+        // Of one place the lowest fault.
+        Check.fault("LET START() BE ^y(1) := 1", 3);
+        Check.fault("LET START() BE ^y + 1 := 1", 3);
+        Check.fault("LET START() BE $( LET x = @^y(1); FINISH $)", 3);
+        Check.fault("LET START(a) BE $( LET f() BE ^a + 1 := 2; FINISH $)", 5);
         // A label is no place: the first token counts, and then its name in an E.
         no("L: ^(L) := 1");
         no("L: x := @^(L)");
@@ -69,6 +74,18 @@ public final class PlacesTest {
         no("x := VALOF $( LET f() BE ^RESULTIS 1; f() $)");
         no("^RESULTIS 1");
         no("WHILE x ^RESULTIS x");
+        // Behind a loop, a switch or a VALOF what was around it counts again.
+        for (String loop : new String[] {"WHILE x DO BREAK", "UNTIL x DO LOOP", "FOR i = 1 TO 2 DO BREAK", "BREAK REPEAT", "LOOP REPEATWHILE x", "BREAK REPEATUNTIL x REPEAT"}) {
+            no(loop + "; ^BREAK");
+            no(loop + "; ^LOOP");
+            no("SWITCHON x INTO $( CASE 1: " + loop + "; ENDCASE; CASE 2: ^LOOP $)");
+            yes("WHILE x DO $( " + loop + "; BREAK; LOOP $); $( " + loop + "; IF x BREAK; LOOP $) REPEAT; FOR j = 1 TO 2 DO $( " + loop + "; IF x LOOP; BREAK $)");
+        }
+        no("SWITCHON x INTO $( DEFAULT: ENDCASE $); ^ENDCASE");
+        yes("SWITCHON x INTO $( CASE 1: SWITCHON x INTO $( $); ENDCASE $)");
+        no("x := VALOF $( RESULTIS 1 $); ^RESULTIS 2");
+        yes("WHILE x DO SWITCHON x INTO $( CASE 1: x := VALOF $( RESULTIS 1 $); IF x LOOP; IF x BREAK; ENDCASE $)");
+        yes("x := VALOF $( LET f() = VALOF $( RESULTIS 1 $); RESULTIS f() $); WHILE x $( LET f() BE RETURN; f(); BREAK $)");
         yes("WHILE x BREAK; UNTIL x LOOP; FOR i = 1 TO 2 BREAK; BREAK REPEAT; LOOP REPEATWHILE x; BREAK REPEATUNTIL x");
         yes("WHILE x SWITCHON x INTO $( CASE 1: BREAK; CASE 2: LOOP; CASE 3: ENDCASE $)");
         yes("SWITCHON x INTO $( CASE 1: WHILE x ENDCASE $)");

@@ -98,6 +98,11 @@ public final class RunTest {
         Check.does("LET x = 1 + VALOF $( LET y = 5; RESULTIS y $) + VALOF $( LET z = 6; RESULTIS z $); WRITEN(x)", "12");
         Check.prints("LET F() BE $( LET x = 1 + VALOF $( WRITEN(1); RETURN $); WRITEN(2) $); LET START() BE $( WRITEN(F()); WRITEN(3) $)", "103");
         Check.does("LET x = 3 + VALOF $( FINISH $); WRITEN(1)", "");
+        Check.does("WRITEN(5 - VALOF $( $)); WRITEN(5 - VALOF IF FALSE RESULTIS 9); WRITEN(5 - VALOF WHILE FALSE DO RESULTIS 9)", "555");
+        // What was around a loop within is left by BREAK and LOOP again.
+        Check.does("FOR i = 1 TO 5 DO $( LET j = 0; WHILE TRUE DO $( j := j + 1; IF j = 2 BREAK $); WRITEN(i); IF i = 2 LOOP; IF i = 4 BREAK; WRITEN(j) $); WRITEN(9)", "12232" + "49");
+        Check.does("LET i = 0; $( LET j = 0; $( j := j + 1; IF j < 3 LOOP; BREAK $) REPEAT; i := i + 1; IF i = 2 LOOP; WRITEN(i); IF i = 4 BREAK; WRITEN(j) $) REPEAT; WRITEN(9)", "133349");
+        Check.does("LET i = 0; WHILE i < 4 DO $( FOR k = 1 TO 2 DO LOOP; i := i + 1; IF i = 2 LOOP; WRITEN(i + VALOF $( FOR k = 1 TO 2 DO BREAK; RESULTIS 0 $)) $)", "134");
     }
 
     private static void calls() {

@@ -146,7 +146,7 @@ public final class TokensTest {
         String[] ends = {"a := a", "a := 1", "a := 'x'", "a := \"s\"", "$( $)", "F()", "a := TRUE", "a := FALSE", "BREAK", "LOOP", "ENDCASE", "RETURN", "FINISH"};
         String[] begins = {"a := 1", "(F)()", "!a := 1", "$( $)", "IF a DO F()", "UNLESS a DO F()",
             "TEST a THEN F() OR F()", "WHILE a DO F()", "UNTIL a DO F()", "FOR I = 1 TO 1 DO F()", "SWITCHON a INTO $( $)", "CASE 2: F()",
-            "DEFAULT: F()", "BREAK", "LOOP", "ENDCASE", "RETURN", "FINISH", "GOTO L"};
+            "DEFAULT: F()", "BREAK", "LOOP", "ENDCASE", "RETURN", "FINISH", "GOTO L", "1()", "'x'()", "\"s\"()", "TRUE()", "FALSE()", "VALOF $( $)()"};
         for (String one : ends) {
             for (String other : begins) {
                 String all = "LET F() BE RETURN\nLET START() BE $( LET a = 1\n WHILE a DO $( SWITCHON a INTO $( CASE 1: " + one + "\n" + other + "\n L: $) $) $)";

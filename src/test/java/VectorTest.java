@@ -49,6 +49,12 @@ public final class VectorTest {
         Check.does("WRITEN(GETVEC(4096 - 106)); IF FALSE $( LET v = VEC 1; v!0 := 1 $)", "0");
         // The floor is that of the routine at hand: F's frame lies at 105 and ends at 108.
         Check.prints("LET F(a) = GETVEC(a); LET START() BE $( LET x = 1; WRITEN(F(4096 - 108)); WRITEN(F(4096 - 109)) $)", "0108");
+        // Routines within have frames of their own: START's lies at 102 and has three words, or five.
+        Check.does("LET F() BE $( LET v = VEC 9; FINISH $); LET x = 0; x := GETVEC(4095 - 105); WRITEN(x)", "105");
+        Check.does("LET F() BE $( LET v = VEC 9; FINISH $); LET x = 0; x := GETVEC(4096 - 105); WRITEN(x)", "0");
+        Check.does("LET x, y, z = 0, 1, 2; LET F() = 1; x := GETVEC(4095 - 107); WRITEN(x)", "107");
+        Check.does("LET x, y, z = 0, 1, 2; LET F() = 1; x := GETVEC(4096 - 107); WRITEN(x)", "0");
+        Check.does("LET x, y, z = 0, 1, 2; $( LET F() = 1; x := GETVEC(4096 - 107); WRITEN(x) $)", "0");
     }
 
     private static void frames() {
@@ -64,6 +70,7 @@ public final class VectorTest {
         // The words of a block lie as they lie there; a routine's first two words are the caller's B and its entry.
         Check.does("$( LET a, b = 7, 8; a := b $); $( LET v = VEC 1; WRITEN(v!0); WRITEN(v!(-1) = v) $)", "8-1");
         Check.prints("LET F(a) BE $( WRITEN((@a)!(-2)); WRITEN((@a)!(-1)) $); LET START() BE F(1)", "1021000000");
+        Check.prints("LET START() BE F(1) AND G() = 1 AND F(a) BE $( WRITEN((@a)!(-2)); WRITEN((@a)!(-1)) $)", "1031000002");
     }
 
     private static void applying() {
