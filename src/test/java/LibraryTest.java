@@ -50,6 +50,7 @@ public final class LibraryTest {
 
     private static void reading() {
         Check.due("bytes", reads("a\n\u00ff", "FOR i = 1 TO 5 DO $( WRITEN(RDCH()); WRCH(' ') $)"), "97 10 255 -1 -1 ");
+        Check.due("bytes 0", reads("\u0000\u0000a", "WRITEN(RDCH()); WRITEN(RDCH()); WRITEN(UNRDCH()); WRITEN(RDCH()); WRITEN(RDCH())"), "00-1097");
         Check.due("an input that is not there", reads("", "WRITEN(RDCH()); WRITEN(UNRDCH()); WRITEN(RDCH())"), "-10-1");
         Check.due("back", reads("abc", "WRCH(RDCH()); WRITEN(UNRDCH()); WRCH(RDCH()); WRCH(RDCH()); WRITEN(UNRDCH()); WRITEN(UNRDCH()); WRITEN(UNRDCH()); WRCH(RDCH())"), "a-1ab-1-10a");
         Check.due("back behind the end", reads("ab", "RDCH(); RDCH(); WRITEN(RDCH()); WRITEN(RDCH()); WRITEN(UNRDCH()); WRCH(RDCH()); WRITEN(RDCH())"), "-1-1-1b-1");

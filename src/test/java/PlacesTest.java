@@ -85,7 +85,7 @@ public final class PlacesTest {
         yes("SWITCHON x INTO $( CASE 1: SWITCHON x INTO $( $); ENDCASE $)");
         no("x := VALOF $( RESULTIS 1 $); ^RESULTIS 2");
         yes("WHILE x DO SWITCHON x INTO $( CASE 1: x := VALOF $( RESULTIS 1 $); IF x LOOP; IF x BREAK; ENDCASE $)");
-        yes("x := VALOF $( LET f() = VALOF $( RESULTIS 1 $); RESULTIS f() $); WHILE x $( LET f() BE RETURN; f(); BREAK $)");
+        yes("x := VALOF $( LET f() = VALOF $( RESULTIS 1 $); RESULTIS f() $); WHILE x $( LET f() BE RETURN; f(); IF x BREAK; IF x LOOP; SWITCHON x INTO $( CASE 1: $( LET g() = 1; IF g() LOOP; IF x BREAK; ENDCASE $) $) $)");
         yes("WHILE x BREAK; UNTIL x LOOP; FOR i = 1 TO 2 BREAK; BREAK REPEAT; LOOP REPEATWHILE x; BREAK REPEATUNTIL x");
         yes("WHILE x SWITCHON x INTO $( CASE 1: BREAK; CASE 2: LOOP; CASE 3: ENDCASE $)");
         yes("SWITCHON x INTO $( CASE 1: WHILE x ENDCASE $)");

@@ -22,6 +22,7 @@ public final class TokensTest {
         Check.fault("STATIC $( ^" + forty + "x = 7 $); " + value("1"), 1);
         Check.fault("STATIC $( ^" + forty + ". = 7 $); " + value("1"), 1);
         Check.prints("STATIC $( a = 1; A = 2; a.b = 3; a_b = 4; a1 = 5 $); LET START() BE $( WRITEN(a); WRITEN(A); WRITEN(a.b); WRITEN(a_b); WRITEN(a1) $)", "12345");
+        Check.prints("STATIC $( Aa = 1; BB = 2; AaBB = 3; BBAa = 4 $); LET START() BE $( WRITEN(Aa); WRITEN(BB); WRITEN(AaBB); WRITEN(BBAa) $)", "1234");
         Check.fault("STATIC $( ^_a = 7 $)", 1);
         Check.fault("STATIC $( ^.a = 7 $)", 1);
         Check.fault("STATIC $( Let = 7 $);LET F() BE FINISH", 7, 0);
