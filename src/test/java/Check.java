@@ -12,7 +12,7 @@ final class Check {
         asked++;
         if (got != want) {
             wrong++;
-            System.out.println(what + ": answered " + got + ", due is " + want);
+            System.out.println(brief(what) + ": answered " + got + ", due is " + want);
         }
     }
 
@@ -24,8 +24,14 @@ final class Check {
         asked++;
         if (!got.equals(want)) {
             wrong++;
-            System.out.println(what + ": answered <" + got + ">, due is <" + want + ">");
+            System.out.println(brief(what) + ": answered <" + got + ">, due is <" + want + ">");
         }
+    }
+
+    /** Long texts are told by their two ends. */
+    private static String brief(String what) {
+        int length = what.length();
+        return length < 400 ? what : what.substring(0, 190) + " .. " + what.substring(length - 190);
     }
 
     static void end() {
@@ -62,8 +68,14 @@ final class Check {
     }
 
     static String out(WordTongue x, int k) {
+        return lastOut(x, k, Integer.MAX_VALUE);
+    }
+
+    /** The last bytes put out, so many at most: an object is used for 512 calls, and no more. */
+    static String lastOut(WordTongue x, int k, int most) {
         StringBuilder all = new StringBuilder();
-        for (int i = 0; i < x.out(k); i++) {
+        int count = x.out(k);
+        for (int i = Math.max(0, count - most); i < count; i++) {
             all.append((char) x.outAt(k, i));
         }
         return all.toString();
@@ -84,6 +96,12 @@ final class Check {
     static void fault(String marked, int fault) {
         int place = marked.indexOf('^');
         fault(marked.substring(0, place) + marked.substring(place + 1), fault, place);
+    }
+
+    /** All tokens can stand: a fault there may be, but none of the first two. */
+    static void stands(String text) {
+        String got = compiled(text);
+        due("tokens of <" + text + ">", got.startsWith("1@") || got.startsWith("2@") ? got : "stand", "stand");
     }
 
     static void good(String text) {
@@ -108,6 +126,22 @@ final class Check {
 
     static String start(String commands) {
         return "LET START() BE $( " + commands + " $)";
+    }
+
+    /** An object with a store of so many words, in which this text is compiled. */
+    static WordTongue sized(int words, String text) {
+        WordTongue x = new WordTongue();
+        due("store(" + words + ")", x.store(words), true);
+        compile(x, text);
+        due("compile of <" + text + ">, fault", x.fault(), 0);
+        return x;
+    }
+
+    /** A text whose run in a store of so many words answers this, having put this out. */
+    static void ends(int words, String text, int answer, String want) {
+        WordTongue x = sized(words, text);
+        due("run of <" + text + "> with " + words + " words", x.run(100000), answer);
+        due("output of <" + text + "> with " + words + " words", out(x, 0), want);
     }
 
     /** A text whose run ends with this error, having put this out. */

@@ -19,7 +19,7 @@ public final class NoiseTest {
     public static void main(String[] args) {
         WordTongue x = new WordTongue();
         for (int i = 0; i < 6000; i++) {
-            if (i % 100 == 0) {
+            if (i % 10 == 0) {
                 x = new WordTongue();
                 Check.input(x, 0, "12 -7 abc 99999999999 ");
             }
@@ -71,22 +71,19 @@ public final class NoiseTest {
             "!1 := VALOF ", "-", "!", "1!", "1%@", "x := TABLE VALOF ", "TEST 1 THEN F() OR ", "WHILE VALOF ", "F() REPEATWHILE VALOF ", "STATIC $( S = "};
         for (String part : parts) {
             for (int count : new int[] {10, 59, 60, 61, 500}) {
-                WordTongue x = new WordTongue();
-                answers(x, "LET START() BE " + Check.times(part, count));
-                answers(x, "LET START() = " + Check.times(part, count) + "1");
-                answers(x, "LET START() BE $( LET x = " + Check.times(part, count) + "1" + Check.times(")", count) + Check.times(" $)", count));
+                answers(new WordTongue(), "LET START() BE " + Check.times(part, count));
+                answers(new WordTongue(), "LET START() = " + Check.times(part, count) + "1");
+                answers(new WordTongue(), "LET START() BE $( LET x = " + Check.times(part, count) + "1" + Check.times(")", count) + Check.times(" $)", count));
             }
         }
     }
 
     private static void large() {
         for (String part : new String[] {"a", "1+", "\"\",", "F();", "x,", "x:", "1(2)", "!x:=1;", "1->1,", "LET F()BE;", "$(;$);", "REPEAT ", "1<", "'a'", "TABLE 1,2,"}) {
-            WordTongue x = new WordTongue();
             for (String head : new String[] {"", "LET START()BE ", "LET START()BE $(", "LET START()=", "LET START()BE $(LET x=1;x:="}) {
-                answers(x, head + Check.times(part, 6000 / part.length()));
+                answers(new WordTongue(), head + Check.times(part, 6000 / part.length()));
             }
         }
-        WordTongue x = new WordTongue();
-        answers(x, "LET START()BE $(LET x=1;WHILE TRUE DO x:=" + Check.times("x+", 2900) + "1 $)");
+        answers(new WordTongue(), "LET START()BE $(LET x=1;WHILE TRUE DO x:=" + Check.times("x+", 2900) + "1 $)");
     }
 }
