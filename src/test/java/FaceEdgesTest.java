@@ -7,6 +7,7 @@ public final class FaceEdgesTest {
         newObject();
         feeding();
         ending();
+        cutTexts();
         compiling();
         sizes();
         inputs();
@@ -103,6 +104,35 @@ public final class FaceEdgesTest {
             x.run(1000);
             String all = Check.times("A", 20) + Check.times("B", 20);
             Check.due("bytes", Check.out(x, 0), all.substring(0, n) + Check.times("C", 20) + "-1");
+        }
+    }
+
+    /** What was fed behind the first n bytes is no part of the text: it ends no token and begins none. */
+    private static void cutTexts() {
+        String[] texts = {"LET START() BE $(A1 LET a := 5 // end\n WRITES(\"a*Nb\") $)A1 ", "GLOBAL $( G:#X1F $);LET START()BE G:='*N'<<2>=3->4,~=5 // c",
+            "LET START()='a';'*'' ; // \"\" * \"*\"\" $$()$($)", "LET START() = #17 ~= #XAB // x\nAND F() = \"ab\" >> 3 <= 4 << 5"};
+        for (String text : texts) {
+            for (int n = 0; n <= text.length(); n++) {
+                WordTongue cut = new WordTongue();
+                Check.feed(cut, text);
+                Check.due("end(" + n + ")", cut.end(n), true);
+                WordTongue fed = new WordTongue();
+                int answer = Check.compile(fed, text.substring(0, n));
+                Check.due("compile of the first " + n + " of <" + text + ">", cut.compile(), answer);
+                Check.due("fault of the first " + n + " of <" + text + ">", cut.fault(), fed.fault());
+                Check.due("no place behind the end", -1 - answer <= n, true);
+            }
+        }
+        // A sign, a comment, a name, a number, a 'C' and a string that the end cuts.
+        String[][] rows = {{"LET START() = 1 /", "/ x", "2"}, {"LET START() = 1 -", "> 2, 3", "2"}, {"LET START() = F", "G", "3"}, {"LET START() = 1", "2", "0"}, {"LET START() = 'a", "'", "1"},
+            {"LET START() = \"ab", "\"", "1"}, {"LET START() = #", "7", "1"}, {"LET START() = #X", "7", "1"}, {"LET START() = '*", "N'", "1"}, {"LET START() BE $", "( $)", "1"},
+            {"LET START() BE $( $", ")", "1"}, {"LET START() BE $(A $)", "A", "0"}, {"LET START() = 1 ~", "= 2", "2"}, {"LET START() BE FINIS", "H", "2"}, {"LET START() BE FINISH", "ED()", "0"}};
+        for (String[] row : rows) {
+            WordTongue x = new WordTongue();
+            Check.feed(x, row[0] + row[1]);
+            x.end(row[0].length());
+            x.compile();
+            Check.due("fault of <" + row[0] + ">", x.fault(), Integer.parseInt(row[2]));
         }
     }
 

@@ -159,6 +159,11 @@ public final class GrammarTest {
         no("SWITCHON a INTO $( CASE 1: $( ^CASE 2: $) $)");
         no("^CASE 1: FINISH");
         no("^DEFAULT: FINISH");
+        for (String sign : new String[] {"EQV", "NEQV", "REM", "NOT", "+", "=", "->", "!", ":", "THEN", "TO", "BY", "INTO", "BE", "AND", "VEC"}) {
+            no("BREAK ^" + sign + " 1");
+            no("$( $) ^" + sign + " 1");
+            no("F(1) REPEAT ^" + sign + " 1");
+        }
         no("GOTO ^1");
         no("GOTO ^(L)");
         no("RETURN ^1");

@@ -125,6 +125,11 @@ public final class NamesTest {
         Check.prints("GLOBAL $( F: 7; G: 7 $); LET G() = 2; LET F() = 1; LET START() BE $( WRITEN(F()); WRITEN(G()) $)", "11");
         // A global that is declared behind the routine is none of it; nor one of a block.
         Check.prints("GLOBAL $( G: 5 $); LET F() BE $( GLOBAL $( H: 5; Z: 6 $); H := H + 1; Z := Z + 2 $); LET START() BE $( F(); F(); WRITEN(G); WRITEN(!6) $)", "24");
+        // A D of a block makes no routine of the text a global's, nor does a D of the text one of a block.
+        Check.due("a block's GLOBAL", Check.compiled("LET F() BE $( GLOBAL $( G: 5 $); G := 7 $); LET G() = 1; LET START() BE FINISH"), "ok 103");
+        Check.prints("LET F() BE $( GLOBAL $( G: 5 $); G := 7 $); LET G() = 1; LET START() BE $( F(); WRITEN(G()); WRITEN(!5) $)", "17");
+        Check.due("a routine of a block", Check.compiled("GLOBAL $( G: 5 $); LET START() BE $( LET G() = 1; FINISH $)"), "ok 102");
+        Check.prints("GLOBAL $( G: 5 $); LET START() BE $( LET G() = 1; WRITEN(G()); WRITEN(!5) $)", "10");
         Check.prints("LET START() BE $( LET F() = 4; GLOBAL $( G: 9 $); G := F; WRITEN(G()) $)", "4");
         Check.prints("GLOBAL $( START: 0 $); LET START() BE WRITEN(!0 = START)", "-1");
         Check.prints("GLOBAL $( START: 3; F: 3 $); LET START() BE WRITEN(START - 1000000); LET F() BE WRITEN(77)", "1");

@@ -54,6 +54,13 @@ public final class ReuseTest {
         "\n\n// nothing",
         "WRITEN",
         "LET\nSTART() = 4",
+        "LET F() = nothing; LET START() BE ?",
+        "LET F() = nothing; LET START() BE FINISH",
+        "LET START() BE FINISH; LET F() BE BREAK; LET G() = )",
+        "LET START() BE $( GETVEC(99); GETVEC(50); GETVEC(7); GETVEC(300) $)",
+        "LET START() BE FOR i = 1 TO 5 DO $( WRITEN(GETVEC(0)); WRITEN(GETVEC(1)) $)",
+        "GLOBAL $( G: 3 $); LET START() = 1 AND G() = 2",
+        "LET START() = 1 AND G() = 2",
     };
 
     public static void main(String[] args) {

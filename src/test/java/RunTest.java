@@ -30,6 +30,9 @@ public final class RunTest {
     private static void comparing() {
         Check.does("LET a, b = -2147483648, 2147483647; WRITEN(a < b); WRITEN(a > b); WRITEN(a <= b); WRITEN(a >= b); WRITEN(a = b); WRITEN(a ~= b)", "-10-100-1");
         Check.does("WRITEN(1 < 2 < 3 < 4); WRITEN(1 < 2 > 0 = 0); WRITEN(1 < 3 < 2); WRITEN(3 < 1 < 2); WRITEN(5 = 5 = 5); WRITEN((5 = 5) = 5)", "-1-100-10");
+        // Many rows in one E.
+        Check.does("FOR i = 1 TO 3 DO $( LET x = (1 < 2 < 3 & 2 < 3 < 4 & 3 < 2 < 5 | 4 < 5 < 6 < 7 | 9 > 8 > 7 & 1 = 1 = 2) + (5 > 6 > 7) + (1 < 2 < 3); WRITEN(x) $)", "-2-2-2");
+        Check.does("FOR i = 1 TO 5 DO WRITEN(1 < i < 4 | i = 5 = 5 & 2 <= i <= 9)", "0-1-10-1");
         // The ones behind a false one are not worked, and each is worked once.
         Check.prints("LET F(n) = VALOF $( WRITEN(n); RESULTIS n $); LET START() BE $( LET x = F(1) < F(2) < F(3); WRCH(' '); x := F(2) < F(1) < F(3); WRCH(' '); x := F(1) < F(5) < F(4) < F(9); WRITEN(x) $)", "123 21 1540");
         Check.prints("LET F(n) = VALOF $( WRITEN(n); RESULTIS n $); LET START() BE $( LET x = F(2) < F(1) + F(7) < F(3) & F(6) | 8; WRITEN(x) $)", "217368");
@@ -74,6 +77,15 @@ public final class RunTest {
         Check.does("FOR i = 1 TO 10 BY 4 DO WRITEN(i); FOR i = 3 TO 1 BY -1 DO WRITEN(i); FOR i = 1 TO 1 DO WRITEN(i); FOR i = 10 TO 1 BY -4 DO WRITEN(i)", "15932111062");
         Check.does("LET n = 0; FOR i = 5 TO 5 BY 0 DO $( n := n + 1; IF n = 3 BREAK $); WRITEN(n); FOR i = 6 TO 5 BY 0 DO WRITEN(9)", "3");
         Check.does("LET n = 0; FOR i = 2147483646 TO 2147483647 DO $( n := n + 1; IF n = 4 BREAK; WRITEN(i - 2147483640) $)", "67" + "8" .replace("8", "8"));
+        // Many words that leave or go on, each of them taken.
+        String body = "$( i := i + 1; IF i = 1 LOOP; IF i = 3 LOOP; IF i = 5 LOOP; WRITEN(i); IF i = 7 BREAK; IF i = 8 BREAK; IF i = 9 BREAK $)";
+        String[] heads = {"WHILE i < 20 DO #", "UNTIL i >= 20 DO #", "# REPEATWHILE i < 20", "# REPEATUNTIL i >= 20", "# REPEAT", "FOR j = 1 TO 20 DO #"};
+        for (String head : heads) {
+            Check.does("LET i = 0; " + head.replace("#", body) + "; WRITEN(0)", "24670");
+            Check.does("LET i = 7; " + head.replace("#", body) + "; WRITEN(0)", "80");
+            Check.does("LET i = 8; " + head.replace("#", body) + "; WRITEN(0)", "90");
+        }
+        Check.does("LET i = 0; " + body + " REPEATWHILE i < 5 REPEATWHILE i < 12; WRITEN(0)", "2467891011120");
         // The end is worked once; N may be stored to.
         Check.does("LET n = 3; FOR i = 1 TO n DO $( n := 1; WRITEN(i) $); FOR i = 1 TO 9 DO $( WRITEN(i); i := i + 2 $)", "123147");
         Check.prints("LET F(n) = VALOF $( WRITEN(n); RESULTIS n $); LET START() BE FOR i = F(1) TO F(2) DO WRITEN(i)", "1212");
@@ -85,6 +97,22 @@ public final class RunTest {
         String s = "FOR i = 1 TO 6 DO SWITCHON i INTO $( CASE 1: WRITEN(1); ENDCASE; CASE 2: CASE 3: WRITEN(2); CASE 4: WRITEN(4); ENDCASE; DEFAULT: WRITEN(9); CASE 6: WRITEN(6) $)";
         Check.does(s, "12424" + "4" + "96" + "6");
         Check.does("SWITCHON 5 INTO $( CASE 1: WRITEN(1) $); WRITEN(2)", "2");
+        // Only what the K's tell are cases, however many there are.
+        Check.does("LET n = 0; FOR i = -20 TO 400 DO SWITCHON i INTO $( CASE 5000: CASE 6000: n := 1; CASE 7000: n := 2; ENDCASE; DEFAULT: n := n + 1 $); WRITEN(n)", "421");
+        Check.does("LET n = 0; FOR i = -20 TO 400 DO SWITCHON i INTO $( CASE 5000: CASE 6000: n := 1; ENDCASE; CASE 7000: n := n + 1 $); WRITEN(n)", "0");
+        StringBuilder cases = new StringBuilder();
+        for (int i = 0; i < 150; i++) {
+            cases.append("CASE ").append(i).append(":n:=n+").append(i).append(";ENDCASE;");
+        }
+        Check.does("LET n = 0; FOR i = -5 TO 155 DO SWITCHON i INTO $( " + cases + "DEFAULT:n:=n+100000 $); WRITEN(n)", "" + (149 * 150 / 2 + 11 * 100000));
+        for (int i = 0; i < 150; i += 7) {
+            Check.fault("LET START() BE $( LET n=0;SWITCHON n INTO $( " + cases + "CASE ^" + i + ": $) $)", 6);
+        }
+        Check.does("FOR i = 1 TO 4 DO $( SWITCHON i INTO $( CASE 1: WRITEN(1); ENDCASE; CASE 2: ENDCASE; CASE 3: WRITEN(3); ENDCASE; DEFAULT: WRITEN(9) $); WRITEN(0) $)", "1003090");
+        // What an E is on its way with stays, whether a case is met or not.
+        for (String inner : new String[] {"CASE 1:", "CASE 3:", "DEFAULT:", "", "CASE 3: ENDCASE", "CASE 1: ENDCASE; DEFAULT: ENDCASE"}) {
+            Check.does("WRITEN(50 - VALOF $( SWITCHON 3 INTO $( " + inner + " $); RESULTIS 4 $))", "46");
+        }
         Check.does("SWITCHON 1 INTO $( WRITEN(0); CASE 1: $( WRITEN(1); SWITCHON 2 INTO $( CASE 2: WRITEN(2); ENDCASE; CASE 3: WRITEN(3) $) $); WRITEN(4); ENDCASE; DEFAULT: WRITEN(5) $)", "124");
         Check.does("SWITCHON 2 INTO $( $); SWITCHON 'b' INTO $( CASE 'a': WRITEN(1); CASE 'b': $); SWITCHON -2147483648 INTO $( CASE #X80000000: WRITEN(3) $)", "3");
         Check.does("FOR i = 1 TO 3 DO $( SWITCHON i INTO $( CASE 2: LOOP; CASE 3: BREAK $); WRITEN(i) $)", "1");
@@ -99,6 +127,9 @@ public final class RunTest {
         Check.prints("LET F() BE $( LET x = 1 + VALOF $( WRITEN(1); RETURN $); WRITEN(2) $); LET START() BE $( WRITEN(F()); WRITEN(3) $)", "103");
         Check.does("LET x = 3 + VALOF $( FINISH $); WRITEN(1)", "");
         Check.does("WRITEN(5 - VALOF $( $)); WRITEN(5 - VALOF IF FALSE RESULTIS 9); WRITEN(5 - VALOF WHILE FALSE DO RESULTIS 9)", "555");
+        Check.prints("LET F(n) = n; LET START() BE $( WRITEN(50 - VALOF $( F(9); F(7); RESULTIS 4 $)) $)", "46");
+        Check.does("WRITEN(VALOF $( LET i = 0; $( i := i + 1; IF i = 2 RESULTIS 5; IF i = 7 RESULTIS 6; IF i > 8 RESULTIS 7; i := i + 3 $) REPEAT $))", "7");
+        Check.does("FOR n = 1 TO 3 DO WRITEN(40 - VALOF $( IF n = 1 RESULTIS 5; IF n = 2 RESULTIS 6 $))", "353440");
         // What was around a loop within is left by BREAK and LOOP again.
         Check.does("FOR i = 1 TO 5 DO $( LET j = 0; WHILE TRUE DO $( j := j + 1; IF j = 2 BREAK $); WRITEN(i); IF i = 2 LOOP; IF i = 4 BREAK; WRITEN(j) $); WRITEN(9)", "12232" + "49");
         Check.does("LET i = 0; $( LET j = 0; $( j := j + 1; IF j < 3 LOOP; BREAK $) REPEAT; i := i + 1; IF i = 2 LOOP; WRITEN(i); IF i = 4 BREAK; WRITEN(j) $) REPEAT; WRITEN(9)", "133349");
@@ -111,6 +142,7 @@ public final class RunTest {
         Check.prints("LET F(n) = VALOF $( WRITEN(n); RESULTIS n $); LET G() = VALOF $( WRITEN(9); RESULTIS F $); LET START() BE G()(F(1), F(2))", "1291");
         Check.prints("LET F(n) = n + 1; LET START() BE $( LET v = VEC 1; v!1 := F; WRITEN((v!1)(5)); WRITEN((1 -> F, 0)(7)); WRITEN(1000000(8)) $)", "689");
         Check.prints("LET F() = 1; LET G() = 2; LET START() BE $( F := G; WRITEN(F()) $)", "2");
+        Check.prints("LET F() BE RETURN; LET G() BE $( $); LET H(a) BE a := 5; LET START() BE $( WRITEN(100 - F()); WRITEN(100 - G()); WRITEN(100 - H(3)); WRITEN(7 - (6 - H(3))) $)", "1001001001");
         Check.prints("LET A(n) = n = 0 -> 0, 1 + B(n - 1) AND B(n) = n = 0 -> 0, 1 + A(n - 1); LET START() BE WRITEN(A(90))", "90");
         Check.prints("LET F(a) BE $( a := a + 1; WRITEN(a) $); LET START() BE $( LET x = 1; F(x); WRITEN(x) $)", "21");
         Check.prints("LET F(n) BE $( IF n = 0 RETURN; F(n - 1); WRITEN(n) $); LET START() BE F(5)", "12345");
