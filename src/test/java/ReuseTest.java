@@ -59,6 +59,8 @@ public final class ReuseTest {
         "LET START() BE FINISH; LET F() BE BREAK; LET G() = )",
         "LET START() BE $( GETVEC(99); GETVEC(50); GETVEC(7); GETVEC(300) $)",
         "LET START() BE FOR i = 1 TO 5 DO $( WRITEN(GETVEC(0)); WRITEN(GETVEC(1)) $)",
+        "LET START() BE FOR i = 1 TO 9 DO WRITEN(GETVEC(0))",
+        "LET START() BE FOR i = 1 TO 9 DO WRITEN(GETVEC(i * 3))",
         "GLOBAL $( G: 3 $); LET START() = 1 AND G() = 2",
         "LET START() = 1 AND G() = 2",
     };

@@ -13,6 +13,8 @@ public final class TextEdgesTest {
         endsOfTheText();
         argumentsAndParameters();
         asMany();
+        semicolonsUnderstood();
+        noneUnderstood();
         Check.end();
     }
 
@@ -284,5 +286,88 @@ public final class TextEdgesTest {
         Check.fault(head + "LET v = VEC 1^, VEC 2 $)", 2);
         Check.fault(head + "LET v, w = VEC 1 ^$)", 2);
         Check.fault(head + "LET v, w = VEC 1^; FINISH $)", 2);
+    }
+
+    private static final String[] EXPRESSIONS = {"b", "1", "'x'", "\"s\"", "(b)", "VALOF $( $)", "VALOF $(T $)T", "TRUE", "FALSE", "a(1)"};
+    private static final String[] WORDS = {"BREAK", "LOOP", "ENDCASE", "RETURN", "FINISH"};
+    private static final String[] COMMANDS = {"a := 1", "1 := a", "#7 := a", "'x' := a", "\"s\" := a", "(a) := 1", "!a := 1", "@a := 1", "$( $)", "$(T $)T", "TRUE := 1", "FALSE := 1", "VALOF $( $) := 1", "TABLE 1 := 1",
+        "IF a DO ;", "UNLESS a DO ;", "TEST a THEN FINISH OR ;", "WHILE a DO ;", "UNTIL a DO ;", "FOR i = 1 TO 2 DO ;", "SWITCHON a INTO $( $)", "CASE 1: ;", "DEFAULT: ;", "BREAK", "LOOP", "ENDCASE", "RETURN",
+        "RESULTIS 1", "FINISH", "GOTO L"};
+    private static final String[] DECLARATIONS = {"LET x = 1", "LET f() = 1", "GLOBAL $( g: 1 $)", "MANIFEST $( m = 1 $)", "STATIC $( s = 1 $)"};
+
+    /** "a ; is understood if the first is a name, number, ... FINISH, and the second a name, number, ... STATIC": each of the first with each of the second. */
+    private static void semicolonsUnderstood() {
+        for (String command : COMMANDS) {
+            for (String e : EXPRESSIONS) {
+                between("SWITCHON a INTO $( a := " + e, command, " $)");
+                between("SWITCHON a INTO $( a := 1; $( $) REPEATWHILE " + e, command, " $)");
+            }
+            for (String word : WORDS) {
+                between("SWITCHON a INTO $( " + word, command, " $)");
+            }
+            between("SWITCHON a INTO $( $( $)", command, " $)");
+            between("SWITCHON a INTO $( GOTO L", command, " $)");
+            // It can't stand there: the fault's place is that of the token behind.
+            int place = "LET START(a, b) BE a(1\n".length();
+            Check.fault("LET START(a, b) BE a(1\n" + command + ")", 2, place);
+            Check.fault("LET START(a, b) BE a(1//" + command + "\n\n " + command + ")", 2, place + 4 + command.length());
+        }
+        for (String declaration : DECLARATIONS) {
+            for (String e : EXPRESSIONS) {
+                between("$( LET z = " + e, declaration, " $)");
+                between("$( LET h() = " + e, declaration, " $)");
+            }
+            for (String word : WORDS) {
+                between("$( LET h() BE " + word, declaration, " $)");
+            }
+            between("$( STATIC $( z = 1 $)", declaration, " $)");
+            if (!declaration.equals("LET x = 1")) {
+                Check.stands("LET START() BE FINISH\n" + declaration + "\n");
+                Check.fault("LET START() BE FINISH ^" + declaration + "\n", 2);
+            }
+            Check.stands(declaration.equals("LET x = 1") ? "LET START() = 1" : declaration + "\nLET START() BE FINISH\n");
+        }
+        for (String kind : new String[] {"GLOBAL $( A: 1#B: 2 $)", "MANIFEST $( A = 1#B = A#C = (A)#D = 'x'#E = TRUE#F = 2 $)", "STATIC $( A = 1#B = FALSE $)"}) {
+            Check.good((kind + "#LET START() BE FINISH").replace("#", "\n"));
+            Check.good((kind + "#LET START() BE FINISH").replace("#", " // \n\t\n//\n\r"));
+            Check.due("none in one line", Check.compiled((kind + "#LET START() BE FINISH").replace("#", " ")).startsWith("2@"), true);
+        }
+    }
+
+    private static void between(String one, String other, String behind) {
+        String head = "LET START(a, b) BE " + one;
+        for (String part : new String[] {"\n", " \n", "\n ", "\r\n", " // ;\n", "\n//\n\n\t"}) {
+            Check.stands(head + part + other + behind);
+        }
+        // In one line none is understood; ( and ! go on with what is ahead of them, as @ and $( can't.
+        boolean goesOn = other.startsWith("(") || other.startsWith("!");
+        if (!goesOn) {
+            Check.fault(head + " ^" + other + behind, 2);
+            Check.fault(head + "\t\r ^" + other + behind, 2);
+        }
+    }
+
+    /** Behind other tokens, and ahead of others, none is understood. */
+    private static void noneUnderstood() {
+        String head = "LET START(a, b) BE $( L: ";
+        String[] good = {"a := b\n+ 1", "a := b\n- 1", "a := b\n* 1", "a := b\n/ 1", "a := b\nREM 1", "a := b\n= 1", "a := b\n~= 1", "a := b\n< 1", "a := b\n<= 1", "a := b\n> 1", "a := b\n>= 1", "a := b\n<< 1",
+            "a := b\n>> 1", "a := b\n& 1", "a := b\n| 1", "a := b\nEQV 1", "a := b\nNEQV 1", "a := b\n% 1", "a := b\n-> 1\n, 2", "a\n:= 1", "a\n, b\n:= 1\n, 2", "a := (1\n)", "a := b\n; b := a", "FINISH\n; FINISH",
+            "IF a\nTHEN FINISH", "IF a\nDO FINISH", "TEST a THEN FINISH\nOR FINISH", "TEST a THEN $( $)\nELSE FINISH", "FOR i = 1\nTO 2\nBY 3\nDO FINISH", "SWITCHON a\nINTO $( CASE 1\n: CASE 'x'\n: M\n: FINISH $)",
+            "FINISH\nREPEAT", "$( $)\nREPEATWHILE a\nREPEATUNTIL b", "$( FINISH\n$)", "M\n: FINISH", "$( LET f()\nBE FINISH\nAND g()\n= 1; FINISH $)",
+            // The first is none of them.
+            "a :=\nb", "a := b +\n1", "a := -\n1", "a := NOT\n1", "a := ~\n(b)", "a := !\nb", "a := @\nb", "a := b !\nb", "a := b %\n1", "a :=\n(\nb)", "a(\n1,\nb)", "a, \nb := 1,\n2", "a := b ->\n1,\n2", "a := VALOF\nRESULTIS\n1",
+            "a := TABLE\n1,\n2", "a := b REM\n1", "a := b EQV\n(1)", "a := b <\n1", "a := b &\n1", "IF\na DO\nFINISH", "UNLESS\na DO\n$( $)", "TEST\na THEN\nFINISH OR\nFINISH", "WHILE\na DO\nIF a DO\n!a := 1", "UNTIL\na THEN\n(a) := 1",
+            "FOR\ni =\n1 TO\n2 BY\n3 DO\n$( $)", "SWITCHON\na INTO\n$(\nCASE\n1:\nCASE 2:\nDEFAULT:\nM:\nFINISH;\n$)", "$(\nFINISH;\nFINISH $)", "GOTO\nL", "M:\nFINISH", "$( $) REPEATWHILE\na REPEATUNTIL\n(b)",
+            "$(\nLET\nc,\nd =\n1,\n2;\nLET\nf(\nc,\nd) =\n1 AND\ng() BE\nFINISH;\nLET v = VEC\n5;\nSTATIC\n$(\ns =\n1;\nt = 2 $);\nGLOBAL\n$( h:\n1 $);\nFINISH $)"};
+        for (String command : good) {
+            Check.good(head + command + " $)");
+            Check.good(head + command.replace("\n", " // x\n\n") + " $)");
+            Check.good(head + command.replace("\n", " ") + " $)");
+        }
+        // What would begin a C if there were a ; .
+        for (String bad : new String[] {"a := b\n^~a := 1", "a := b\n^NOT a := 1", "FINISH\n^- a := 1", "FINISH\n^+ a := 1", "FINISH\n^~ a := 1", "$( $) REPEAT\n^FINISH", "$( $) REPEAT\n^a := 1", "$( $) REPEAT\n^$( $)",
+            "$( $) REPEATWHILE\n^REPEAT", "FINISH\n^VEC 3", "FINISH\n^AND f() = 1", "FINISH\n^GET", "FINISH\n^)", "IF a DO\n^)", "FINISH\n^: FINISH"}) {
+            Check.fault(head + bad + " $)", 2);
+        }
     }
 }
